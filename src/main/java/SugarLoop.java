@@ -273,9 +273,6 @@ public final class SugarLoop {
         if (!now.hasPoints(points) || !isWithin(v, MOST_LUMPS)) {
             return OUTSIDE;
         }
-        if (told.count >= MOST_READINGS) {
-            return FULL;
-        }
         return told.add(t, points, v);
     }
 
@@ -734,7 +731,7 @@ public final class SugarLoop {
             lumps = text.number(from + 1);
             rounds = text.digit(from + 3);
             gone = 0;
-            count = Math.min((n - HEAD_CODES) / TABLE_CODES, MOST_TABLES);
+            count = (n - HEAD_CODES) / TABLE_CODES;
             for (int t = 0; t < count; t++) {
                 int at = from + HEAD_CODES + t * TABLE_CODES;
                 Table table = tables[t];
@@ -844,7 +841,7 @@ public final class SugarLoop {
         final int[] taken = new int[MOST_READINGS];
         int count = 0;
 
-        /** Adds one, where there is room: its number. */
+        /** Adds one: its number; FULL. */
         int add(int t, int by, int lumps) {
             if (count >= MOST_READINGS) {
                 return FULL;
@@ -856,7 +853,7 @@ public final class SugarLoop {
         }
     }
 
-    /** A SHEET: its row is made once, for a new object costs room, and used up to length. */
+    /** A SHEET: its row is made once, for a new one would cost room, and used up to length. */
     private static final class Sheet {
         private static final int NO_LANE = -1;
 
@@ -870,7 +867,7 @@ public final class SugarLoop {
 
         void renew(int newLane, int n) {
             lane = newLane;
-            length = Math.min(n, MOST_CELLS);
+            length = n;
             for (int i = 0; i < length; i++) {
                 cells[i] = 0;
             }

@@ -220,9 +220,18 @@ public final class PromiseTest {
         DUE.is("go, points first", x.go(8), OUTSIDE);
         DUE.is("go, no round", x.go(0), STATE);
         DUE.is("gone stays", x.many(3), 2);
+        x.heat(1, 39);
+        x.load(36);
+        DUE.is("a run without rounds", x.run(0, 0), 36);
+        DUE.is("a run without rounds takes none", x.run(0, 11), 0);
+        DUE.is("nor a lump", x.lump(0, 0, 0), NONE);
         DUE.is("rounds in all", x.many(2), 2);
         Calls.furnish(x, "r011;g0000;g9000");
         DUE.is("who wants none is sweet", x.sweet(), 3);
+        Calls.furnish(x, EIGHT);
+        DUE.is("go by eight tables", x.go(0), 35);
+        DUE.is("the last but one takes none", x.ofTable(6, 5), 0);
+        DUE.is("they give them back", x.clear(), 35);
         Calls.furnish(x, "r052;g4909;g0009");
         DUE.is("no more than above what it leaves", x.go(0), 1);
         DUE.is("none is above", x.go(0), 0);
@@ -318,9 +327,9 @@ public final class PromiseTest {
         for (int lane = 0; lane < 3; lane++) {
             SugarLoop x = Calls.with(THREE);
             x.heat(1, 39);
-            Calls.write(x, lane, lane, 9, 7, 0, 2, 1);
+            Calls.write(x, lane, lane, 9, 7, 0, 2, 1, 9);
             int[][] want = {{1, 0, 8, 0, 0, NONE}, {1, 1, 8, 0, 0, NONE}, {1, 2, 3, 1, 1, 4},
-                {2, 1, 3, 1, 1, 1}, {3, 2, 3, 2, 5, 2}, {5, 0, 8, 0, 0, NONE}};
+                {2, 1, 3, 1, 1, 1}, {3, 2, 3, 2, 5, 2}, {4, 1, 3, 1, 2, 2}, {6, 0, 8, 0, 0, NONE}};
             for (int[] w : want) {
                 for (int what = 0; what < 4; what++) {
                     DUE.is("plan " + w[0] + " " + w[1] + " " + what,
@@ -388,8 +397,13 @@ public final class PromiseTest {
         Calls.furnish(x, "r031;g0239;g0239;g9939");
         DUE.is("none is needed", x.best(0), 0);
         Calls.furnish(x, "r041;g3939;g2239;g2239");
-        DUE.is("the least of two", x.best(0), 1);
+        DUE.is("by the first", x.best(0), 1);
         DUE.is("one is sweet by it", x.best(1), 1);
+        Calls.furnish(x, "r041;g0239;g0239;g0139;g0139");
+        DUE.is("three by 1", x.run(1, 1), 3);
+        DUE.is("three by 2", x.run(2, 1), 3);
+        DUE.is("the least of both", x.best(0), 1);
+        DUE.is("three are sweet by it", x.best(1), 3);
     }
 
     private static void enoughTea() {
